@@ -71,20 +71,18 @@ public final class PieceTest {
     /** With just three who fit, the judges are those, in whatever order. */
     private static void whoJudges() {
         GuildHouse house = Check.houseOf(3, 3);
-        house.person(0, NONE);
-        house.person(NONE, NONE);
-        house.person(4, 1);
+        house.person(0, 1);
         house.person(1, NONE);
-        for (int i = 4; i < 7; i++) {
-            house.master(i);
-        }
-        house.days(10);
-        house.person(4, 1);
-        check.same("5 and 6 are kin by a parent", fitOf(house, 7), 3);
-        check.same("they are 0, 2 ..", judgesOf(house, house.piece(7, 5L)), NONE);
-        house.master(3);
-        int piece = house.piece(7, 5L);
-        check.same("0, 2 and 3 judge", judgesOf(house, piece), 1 << 0 | 1 << 2 | 1 << 3);
+        house.person(3, NONE);
+        house.master(4);
+        house.master(5);
+        check.same("of 3: not parents, sibling, child", house.piece(3, 5L), NONE);
+        house.person(NONE, NONE);
+        house.master(6);
+        check.same("two are too few", house.piece(3, 5L), NONE);
+        house.person(5, NONE);
+        house.master(7);
+        check.same("a grandchild is no kin", judgesOf(house, house.piece(3, 5L)), 1 << 2 | 1 << 6 | 1 << 7);
 
         GuildHouse served = Check.houseOf(6, 4);
         served.days(10);
@@ -100,14 +98,6 @@ public final class PieceTest {
         Check.markAll(served, 0, 0, 0, 0, 0);
         served.death(3, NONE);
         check.same("the dead do not judge", judgesOf(served, served.piece(4, 9L)), 1 | 2 | 4);
-    }
-
-    private static int fitOf(GuildHouse house, int person) {
-        int kin = 0;
-        for (int i = 4; i < 7; i++) {
-            kin += house.kin(person, i) ? 1 : 0;
-        }
-        return kin;
     }
 
     private static int judgesOf(GuildHouse house, int piece) {
@@ -139,14 +129,25 @@ public final class PieceTest {
                 }
             }
         }
-        GuildHouse house = Check.houseOf(11, 10);
-        house.piece(10, 0L);
-        // 1442695040888963407 shifted by 33 is 167953240, its last digit the first place.
-        check.same("the first judge by seed 0", house.judge(0, 0), (1442695040888963407L >>> 33) % 10);
+        drawnBy(0L, 10, 7, 3, 1);
+        drawnBy(7L, 10, 8, 9, 1);
+        drawnBy(-1L, 5, 3, 4, 1);
+        drawnBy(Long.MAX_VALUE, 29, 7, 24, 19);
+        drawnBy(Long.MIN_VALUE, 3, 0, 1, 2);
+        GuildHouse house = drawnBy(123456789012345L, 17, 6, 15, 3);
         check.same("judge(0, -1)", house.judge(0, -1), NONE);
         check.same("judge(0, 3)", house.judge(0, 3), NONE);
         check.same("judge(1, 0)", house.judge(1, 0), NONE);
         check.same("judge(-1, 2)", house.judge(-1, 2), NONE);
+    }
+
+    private static GuildHouse drawnBy(long seed, int masters, int... due) {
+        GuildHouse house = Check.houseOf(masters + 1, masters);
+        house.piece(masters, seed);
+        for (int i = 0; i < 3; i++) {
+            check.same("judge " + i + " of " + masters + " by " + seed, house.judge(0, i), due[i]);
+        }
+        return house;
     }
 
     private static void mark() {
