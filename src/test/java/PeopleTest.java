@@ -9,6 +9,7 @@ public final class PeopleTest {
         master();
         death();
         deathOfHands();
+        fullHouse();
         days();
         kin();
         check.finish();
@@ -119,6 +120,20 @@ public final class PeopleTest {
         other.hire(1, 2);
         other.death(2, 1);
         check.same("the dead was a hand of the heir", other.hands(1), 0);
+    }
+
+    private static void fullHouse() {
+        GuildHouse house = Check.houseOf(30, 30);
+        for (int hand = 0; hand < 30; hand++) {
+            check.same("hire", house.hire(29, hand) ? 1 : 0, hand < 29 ? 1 : 0);
+        }
+        check.same("29 hands", house.hands(29), 29);
+        check.yes("death(29, 0)", house.death(29, 0));
+        check.same("28 hands: the heir is none", house.hands(0), 28);
+        check.same("count(2)", house.count(2), 29);
+        check.same("count(7)", house.count(7), 28);
+        check.yes("death(0, NONE)", house.death(0, NONE));
+        check.same("count(7) then", house.count(7), 0);
     }
 
     private static void days() {

@@ -66,6 +66,15 @@ public final class PieceTest {
         check.same("the 41st", house.piece(house.told(39, 0), 1L), NONE);
         check.same("count(5)", house.count(5), 40);
         check.same("told(40)", house.told(40, 0), NONE);
+        Check.markAll(house, 38, 9, 8, 7, 6);
+        check.same("m among 40 pieces", house.value(house.told(38, 0), 4, 0, 0), 7);
+        check.same("m of a piece refused", house.value(house.told(39, 0), 4, 0, 0), 0);
+
+        GuildHouse busy = Check.houseOf(5, 4);
+        for (int i = 0; i < 100; i++) {
+            busy.term(4, i < 99 ? NONE : 2, 0, 0);
+        }
+        check.same("a judge was served in the last of 100", judgesOf(busy, busy.piece(4, 1L)), 1 | 2 | 8);
     }
 
     /** With just three who fit, the judges are those, in whatever order. */

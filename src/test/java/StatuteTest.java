@@ -7,7 +7,10 @@ public final class StatuteTest {
         statute();
         force();
         words();
+        years();
         joints();
+        longTexts();
+        dayZero();
         mayByAnOlderOne();
         mayAsKnown();
         wrongMay();
@@ -97,6 +100,54 @@ public final class StatuteTest {
             holds(word + ">" + number, value > number);
             holds(word + "=" + number, value == number);
         }
+    }
+
+    private static void years() {
+        int[][] daysAndYears = {{0, 0}, {1, 0}, {359, 0}, {360, 1}, {719, 1}, {720, 2}, {3599, 9}, {3600, 10}};
+        for (int[] each : daysAndYears) {
+            GuildHouse house = Check.houseOf(2);
+            house.days(4000);
+            if (each[0] > 0) {
+                house.term(0, 1, 1, each[0]);
+            }
+            Check.statute(house, "y=" + each[1], 0);
+            check.same("y of " + each[0] + " days", house.may(0, 4000, 4000), 1);
+        }
+    }
+
+    /** Thirty texts, the last of 120 bytes; each is in force on its own day and asks for that many letters. */
+    private static void longTexts() {
+        GuildHouse house = Check.houseOf(1);
+        for (int i = 0; i < 29; i++) {
+            check.same("statute", Check.statute(house, "l=" + i, i), i);
+        }
+        for (int k = 0; k < 29; k++) {
+            house.feed(0x20202020);
+        }
+        check.same("120 bytes", Check.write(house, "l=29"), 120);
+        check.same("statute of 120 bytes", house.statute(29), 29);
+        for (int i = 0; i < 30; i++) {
+            check.same("statute " + i + " with 0", house.may(0, i, 0), i == 0 ? 1 : 0);
+        }
+        for (int letters : new int[] {9, 9, 9, 2}) {
+            house.give(0, letters, 0);
+        }
+        for (int i = 0; i < 30; i++) {
+            check.same("statute " + i + " with 29", house.may(0, i, 0), i == 29 ? 1 : 0);
+        }
+    }
+
+    private static void dayZero() {
+        GuildHouse house = Check.houseOf(2);
+        Check.statute(house, "d>5", 0);
+        check.same("force(0, 0)", house.force(0, 0), 0);
+        check.same("may(0, 0, 0)", house.may(0, 0, 0), 0);
+        house.term(0, 1, 0, 0);
+        check.same("value on day 0", house.value(0, 0, 0, 0), 1);
+        house.days(10);
+        check.same("as known in 0, on 0", house.force(0, 0), 0);
+        check.same("as known in 0, on 10", house.may(0, 10, 0), 0);
+        check.same("value as known in 0", house.value(0, 0, 10, 0), 1);
     }
 
     private static void joints() {
