@@ -1,10 +1,15 @@
 import java.util.NoSuchElementException;
+import java.util.function.Consumer;
+import java.util.function.Predicate;
+import java.util.function.Supplier;
+import java.util.function.ToIntFunction;
 
 /** Counts answers that are not as due, and small helps that several tests share. */
 final class Check {
     private final String name;
     private int asked = 0;
     private int wrong = 0;
+    private String sentence = "";
 
     Check(String name) {
         this.name = name;
@@ -14,7 +19,7 @@ final class Check {
         asked++;
         if (got != due) {
             wrong++;
-            System.out.println(name + ": " + call + " answered " + got + ", due is " + due);
+            System.out.println(name + ": " + sentence + call + " answered " + got + ", due is " + due);
         }
     }
 
@@ -24,6 +29,48 @@ final class Check {
 
     void no(String call, boolean got) {
         same(call, got ? 1 : 0, 0);
+    }
+
+    /** What is asked from here on holds to these words of the document; DocumentTest finds them there. */
+    void says(String section, String words) {
+        sentence = section + " '" + words + "': ";
+    }
+
+    /** A call that is refused with NONE and changes nothing. */
+    void isNone(String call, Supplier<GuildHouse> house, ToIntFunction<GuildHouse> refused) {
+        same(call, refused.applyAsInt(house.get()), GuildHouse.NONE);
+        changesNothing(call, house, refused::applyAsInt);
+    }
+
+    /** A call that is refused with false and changes nothing. */
+    void isFalse(String call, Supplier<GuildHouse> house, Predicate<GuildHouse> refused) {
+        no(call, refused.test(house.get()));
+        changesNothing(call, house, refused::test);
+    }
+
+    /** A look that throws and changes nothing. */
+    void isThrown(Supplier<GuildHouse> house, int term, int what) {
+        lookThrows(house.get(), term, what);
+        changesNothing("look(" + term + ", " + what + ")", house, each -> tryLook(each, term, what));
+    }
+
+    /** The same house made twice, with the call and without it, answers alike whatever comes then. */
+    void changesNothing(String call, Supplier<GuildHouse> house, Consumer<GuildHouse> made) {
+        for (Probes.Probe probe : Probes.ALL) {
+            GuildHouse without = house.get();
+            GuildHouse with = house.get();
+            made.accept(with);
+            int differs = Probes.firstUnlike(probe.ask(without), probe.ask(with));
+            same(call + ", then the first answer that it changed in " + probe.name(), differs, GuildHouse.NONE);
+        }
+    }
+
+    private static void tryLook(GuildHouse house, int term, int what) {
+        try {
+            house.look(term, what);
+        } catch (NoSuchElementException e) {
+            return;
+        }
     }
 
     void lookThrows(GuildHouse house, int term, int what) {
@@ -58,6 +105,24 @@ final class Check {
         for (int i = 0; i < masters; i++) {
             house.master(i);
         }
+        return house;
+    }
+
+    /** The house, with a person more of these parents. */
+    static GuildHouse withChild(GuildHouse house, int parent, int other) {
+        house.person(parent, other);
+        return house;
+    }
+
+    /** The house, so many days later. */
+    static GuildHouse after(int days, GuildHouse house) {
+        house.days(days);
+        return house;
+    }
+
+    /** The house with a text that is no statute yet. */
+    static GuildHouse withText(GuildHouse house, String text) {
+        write(house, text);
         return house;
     }
 
