@@ -243,9 +243,10 @@ public final class PeopleEdgeTest {
         return house;
     }
 
-    /** Masters 0, 1, 2; hands 3 and 2 of master 0, 4 of master 1. */
+    /** Masters 0, 1, 2; hands 3 and 2 of master 0, 4 of master 1, 0 of master 2. */
     private static GuildHouse shops() {
         GuildHouse house = Check.houseOf(6, 3);
+        house.hire(2, 0);
         house.hire(0, 3);
         house.hire(0, 2);
         house.hire(1, 4);

@@ -143,6 +143,11 @@ public final class PieceEdgeTest {
     private static void oneNotDone() {
         check.says("Promise 16", "it has one that is not done");
         check.isNone("not done", PieceEdgeTest::openPiece, h -> h.piece(3, 1L));
+        check.isNone("not done, of ten masters", () -> {
+            GuildHouse house = Check.houseOf(11, 10);
+            house.piece(10, 7L);
+            return house;
+        }, h -> h.piece(10, 8L));
         check.same("of another", openPiece().piece(4, 1L), 1);
         GuildHouse house = openPiece();
         for (int cell = 0; cell < 11; cell++) {
@@ -164,7 +169,11 @@ public final class PieceEdgeTest {
         check.says("Promise 16", "fewer than three judges");
         for (int masters = 0; masters < 3; masters++) {
             int few = masters;
-            check.isNone(few + " masters", () -> Check.houseOf(5, few), h -> h.piece(4, 1L));
+            check.isNone(few + " masters", () -> {
+                GuildHouse house = Check.houseOf(5, few);
+                house.hire(0, 4);
+                return house;
+            }, h -> h.piece(4, 1L));
         }
         check.same("three", Check.houseOf(5, 3).piece(4, 1L), 0);
         check.isNone("two and a parent", () -> Check.withChild(Check.houseOf(3, 3), 0, NONE), h -> h.piece(3, 1L));
@@ -538,6 +547,12 @@ public final class PieceEdgeTest {
         check.same("k on that day", house.value(4, 5, 15, 25), 1);
         check.same("k as known on the day before", house.value(4, 5, 25, 14), 0);
         check.same("k as known on that day", house.value(4, 5, 25, 15), 1);
+        GuildHouse earlier = lacksOne();
+        earlier.master(3);
+        earlier.days(10);
+        earlier.mark(0, 2, 2, 5);
+        check.same("who was one before", earlier.value(4, 5, 5, 15), 1);
+        check.same("is no second one", earlier.count(2), 4);
         GuildHouse not = refusedPiece();
         check.same("who did not pass is none", not.hands(3), NONE);
         check.yes("but may be told one", not.master(3));

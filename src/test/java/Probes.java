@@ -41,12 +41,10 @@ final class Probes {
     private static List<Probe> all() {
         List<Probe> probes = new ArrayList<>();
         probes.add(new Probe("counts and force", Probes::counts));
-        probes.add(new Probe("values 0 to 3", (house, to) -> values(house, to, 0, 3)));
-        probes.add(new Probe("values 4 to 6 and may", (house, to) -> values(house, to, 4, 7)));
-        probes.add(new Probe("values a day later", (house, to) -> {
-            to.add(house.days(1));
-            values(house, to, 0, 6);
-        }));
+        probes.add(new Probe("values and may", (house, to) -> values(house, to, LAST_DAY, house.count(0))));
+        probes.add(new Probe("values of the day before", (house, to) -> values(house, to, house.count(0) - 1, house.count(0))));
+        probes.add(new Probe("values known the day before", (house, to) -> values(house, to, LAST_DAY, house.count(0) - 1)));
+        probes.add(new Probe("values a day later", (house, to) -> values(house, to, LAST_DAY, house.days(1))));
         probes.add(new Probe("kin of the even", (house, to) -> kinship(house, to, 0)));
         probes.add(new Probe("kin of the odd", (house, to) -> kinship(house, to, 1)));
         for (int what = 0; what < 6; what += 2) {
@@ -89,12 +87,12 @@ final class Probes {
         }
     }
 
-    private static void values(GuildHouse house, List<Integer> to, int first, int last) {
-        int now = house.count(0);
+    private static void values(GuildHouse house, List<Integer> to, int d, int q) {
         for (int person = 0; person < PEOPLE; person++) {
-            for (int what = first; what <= last; what++) {
-                to.add(what < 7 ? house.value(person, what, LAST_DAY, now) : house.may(person, now, now));
+            for (int what = 0; what < 7; what++) {
+                to.add(house.value(person, what, d, q));
             }
+            to.add(house.may(person, d, q));
         }
     }
 
@@ -192,8 +190,11 @@ final class Probes {
         for (int person = 0; person < PEOPLE; person++) {
             to.add(house.master(person) ? 1 : 0);
         }
+        int now = house.count(0);
         to.add(house.count(2));
-        values(house, to, 5, 5);
+        for (int person = 0; person < PEOPLE; person++) {
+            to.add(house.value(person, 5, now, now));
+        }
     }
 
     private static void deaths(GuildHouse house, List<Integer> to) {

@@ -147,6 +147,7 @@ public final class ShopEdgeTest {
             left.leave(3);
             return left;
         }, h -> h.leave(3));
+        check.isFalse("an heir", () -> takenOver(3), h -> h.leave(1));
         check.isFalse("whose master died without an heir", () -> {
             GuildHouse left = shop(2);
             left.death(0, NONE);
@@ -323,6 +324,13 @@ public final class ShopEdgeTest {
         check.same("with a number of 0 behind the days", zero.lawful(1), 0);
         zero.number(5, 0);
         check.same("as many as there are", zero.lawful(1), 1);
+        GuildHouse empty = shop(0);
+        empty.death(0, 1);
+        for (int hand = 3; hand < 7; hand++) {
+            empty.hire(1, hand);
+        }
+        check.same("who took no hands over has the days", Check.after(100, empty).lawful(1), 1);
+        check.same("and no more than those", Check.after(1, empty).lawful(1), 0);
         GuildHouse third = shop(4);
         third.death(1, 2);
         check.same("who took nothing over has no such days", third.lawful(0), 0);
