@@ -20,7 +20,7 @@ public final class FaceTest {
             "int piece(int,long)", "int judge(int,int)", "boolean mark(int,int,int,int)",
             "int told(int,int)", "boolean hire(int,int)", "boolean leave(int)",
             "boolean number(int,int)", "int hands(int)", "int lawful(int)", "boolean kin(int,int)",
-            "int look(int,int)", "int count(int)");
+            "int look(int,int) throws NoSuchElementException", "int count(int)");
     private static final List<String> BARRED = List.of(
             "->", "::", "Exact", "catch", "finally", "synchronized", "assert ", "static {",
             "hashCode", "toString", "System.out", "try {");
@@ -65,7 +65,11 @@ public final class FaceTest {
         for (Class<?> type : method.getParameterTypes()) {
             text.append(text.charAt(text.length() - 1) == '(' ? "" : ",").append(type);
         }
-        return text.append(')').toString();
+        text.append(')');
+        for (Class<?> type : method.getExceptionTypes()) {
+            text.append(" throws ").append(type.getSimpleName());
+        }
+        return text.toString();
     }
 
     private static void classesInside() {

@@ -11,6 +11,10 @@ public final class ModelTest {
         "y>0", "d>50", "w<9", "l>1", "f>99", "m=0", "k=1", "d<200", "&", "|", "(", ")", " ", "d", "=",
         "7", "12", "&(", "|(", ")&", ")|", "k=0", "y<1", "(((((", "99999", "x", "\u00e9"};
 
+    private static final int[] STRANGE = {
+        Integer.MIN_VALUE, Integer.MIN_VALUE + 1, -20001, -256, -2, -1, 0, 30, 100, 120, 20000, 20001, 65536,
+        1 << 24, Integer.MAX_VALUE - 20000, Integer.MAX_VALUE - 1, Integer.MAX_VALUE};
+
     private static final Check check = new Check("ModelTest");
 
     private final Random random;
@@ -88,7 +92,7 @@ public final class ModelTest {
             return both(house.death(master, heir), model.death(master, heir));
         }
         if (kind < 14) {
-            int n = random.nextInt(20) == 0 ? random.nextInt(20100) - 50 : random.nextInt(stride);
+            int n = orStrange(random.nextInt(20) == 0 ? random.nextInt(20100) - 50 : random.nextInt(stride));
             call = "days(" + n + ")";
             long[] answers = {house.days(n), model.days(n)};
             now = model.count(0);
@@ -104,13 +108,13 @@ public final class ModelTest {
             return new long[] {house.term(person, master, from, to), model.term(person, master, from, to)};
         }
         if (kind < 19) {
-            int term = random.nextInt(model.count(3) + 2) - 1;
+            int term = orStrange(random.nextInt(model.count(3) + 2) - 1);
             call = "back(" + term + ")";
             return both(house.back(term), model.back(term));
         }
         int person = who();
-        int letters = random.nextInt(12) - 1;
-        int coins = random.nextInt(30) == 0 ? random.nextInt(3) + 9998 : random.nextInt(200) - 1;
+        int letters = orStrange(random.nextInt(12) - 1);
+        int coins = orStrange(random.nextInt(30) == 0 ? random.nextInt(3) + 9998 : random.nextInt(200) - 1);
         call = "give(" + person + ", " + letters + ", " + coins + ")";
         return both(house.give(person, letters, coins), model.give(person, letters, coins));
     }
@@ -127,7 +131,7 @@ public final class ModelTest {
         }
         if (kind < 36) {
             int fault = model.fault();
-            int n = random.nextInt(4) == 0 ? random.nextInt(model.count(6) + 3) - 1 : Math.max(fault, 0);
+            int n = orStrange(random.nextInt(4) == 0 ? random.nextInt(model.count(6) + 3) - 1 : Math.max(fault, 0));
             call = "end(" + n + ")";
             return both(house.end(n), model.end(n));
         }
@@ -149,7 +153,7 @@ public final class ModelTest {
             return new long[] {house.force(d, q), model.force(d, q)};
         }
         if (kind < 52) {
-            int what = random.nextInt(9) - 1;
+            int what = orStrange(random.nextInt(9) - 1);
             call = "value(" + person + ", " + what + ", " + d + ", " + q + ")";
             return new long[] {house.value(person, what, d, q), model.value(person, what, d, q)};
         }
@@ -165,14 +169,14 @@ public final class ModelTest {
         if (kind < 58) {
             return lookCall();
         }
-        int what = random.nextInt(10) - 1;
+        int what = orStrange(random.nextInt(10) - 1);
         call = "count(" + what + ")";
         return new long[] {house.count(what), model.count(what)};
     }
 
     private long[] lookCall() {
-        int term = random.nextInt(model.count(3) + 2) - 1;
-        int what = random.nextInt(8) - 1;
+        int term = orStrange(random.nextInt(model.count(3) + 2) - 1);
+        int what = orStrange(random.nextInt(8) - 1);
         call = "look(" + term + ", " + what + ")";
         long[] answers = {THROWN, THROWN};
         try {
@@ -189,22 +193,22 @@ public final class ModelTest {
     }
 
     private long[] pieceCall(int kind) {
-        int piece = random.nextInt(model.count(5) + 2) - 1;
+        int piece = orStrange(random.nextInt(model.count(5) + 2) - 1);
         if (kind < 64) {
             int person = who();
-            long seed = random.nextLong();
+            long seed = random.nextInt(4) == 0 ? orStrange(random.nextInt(9) - 4) : random.nextLong();
             call = "piece(" + person + ", " + seed + ")";
             return new long[] {house.piece(person, seed), model.piece(person, seed)};
         }
         if (kind < 66) {
-            int i = random.nextInt(5) - 1;
+            int i = orStrange(random.nextInt(5) - 1);
             call = "judge(" + piece + ", " + i + ")";
             return new long[] {house.judge(piece, i), model.judge(piece, i)};
         }
         if (kind < 74) {
             return markCall();
         }
-        int what = random.nextInt(8) - 1;
+        int what = orStrange(random.nextInt(8) - 1);
         call = "told(" + piece + ", " + what + ")";
         return new long[] {house.told(piece, what), model.told(piece, what)};
     }
@@ -212,7 +216,7 @@ public final class ModelTest {
     /** Gives most of the points that are missing, so that pieces are done; the last by chance. */
     private long[] markCall() {
         int last = model.count(5) - 1;
-        int piece = random.nextInt(3) == 0 ? random.nextInt(last + 3) - 1 : last;
+        int piece = orStrange(random.nextInt(3) == 0 ? random.nextInt(last + 3) - 1 : last);
         for (int i = 0; i < 12; i++) {
             int points = 3 + random.nextInt(7);
             if (random.nextInt(3) != 0 && i < 11) {
@@ -221,9 +225,9 @@ public final class ModelTest {
                 log.append("mark(" + piece + ", " + i % 3 + ", " + i / 3 + ", " + points + ")\n");
             }
         }
-        int i = random.nextInt(16) == 0 ? random.nextInt(5) - 1 : random.nextInt(3);
-        int part = random.nextInt(16) == 0 ? random.nextInt(6) - 1 : random.nextInt(4);
-        int points = random.nextInt(13) - 1;
+        int i = orStrange(random.nextInt(16) == 0 ? random.nextInt(5) - 1 : random.nextInt(3));
+        int part = orStrange(random.nextInt(16) == 0 ? random.nextInt(6) - 1 : random.nextInt(4));
+        int points = orStrange(random.nextInt(13) - 1);
         call = "mark(" + piece + ", " + i + ", " + part + ", " + points + ")";
         return both(house.mark(piece, i, part, points), model.mark(piece, i, part, points));
     }
@@ -240,7 +244,7 @@ public final class ModelTest {
             return both(house.leave(person), model.leave(person));
         }
         if (kind < 90) {
-            int n = random.nextInt(8) == 0 ? random.nextInt(35) - 2 : random.nextInt(5);
+            int n = orStrange(random.nextInt(8) == 0 ? random.nextInt(35) - 2 : random.nextInt(5));
             int from = day();
             call = "number(" + n + ", " + from + ")";
             return both(house.number(n, from), model.number(n, from));
@@ -263,7 +267,7 @@ public final class ModelTest {
     }
 
     private int who() {
-        return random.nextInt(40) == 0 ? random.nextInt(34) - 2 : random.nextInt(crowd);
+        return orStrange(random.nextInt(40) == 0 ? random.nextInt(34) - 2 : random.nextInt(crowd));
     }
 
     private int orNone(int person) {
@@ -272,8 +276,16 @@ public final class ModelTest {
 
     private int day() {
         if (random.nextInt(40) == 0) {
-            return random.nextInt(20100) - 50;
+            return orStrange(random.nextInt(20100) - 50);
         }
-        return random.nextInt(2) == 0 ? now : random.nextInt(now + 5) - 1;
+        return orStrange(random.nextInt(2) == 0 ? now : random.nextInt(now + 5) - 1);
+    }
+
+    /** Now and then a number far outside, or just at a limit, in place of the drawn one. */
+    private int orStrange(int drawn) {
+        if (random.nextInt(60) != 0) {
+            return drawn;
+        }
+        return random.nextInt(4) == 0 ? random.nextInt() : STRANGE[random.nextInt(STRANGE.length)];
     }
 }
